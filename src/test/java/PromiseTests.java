@@ -115,11 +115,23 @@ public final class PromiseTests {
                 most.put(key, 1, 1000, 0);
             }
             due("maintain() with max " + max, most.maintain(), 5000);
+            WindowCache full = new WindowCache(max, 0, 0);
+            for (int key = 0; key < 6; key++) {
+                full.put(key, 1, key == 5 ? 1 : 1000, 0);
+            }
+            due("maintain() with 5001 and max " + max, full.maintain() <= 5000, true);
         }
         WindowCache endless = new WindowCache(4, -5, Integer.MIN_VALUE);
         endless.put(1, 10, 1, 0);
         endless.advance(Integer.MAX_VALUE);
         due("has(1) without a life", endless.has(1), true);
+        for (int by = 0; by < 2; by++) {
+            WindowCache brief = new WindowCache(4, by, 1 - by);
+            brief.put(1, 10, 1, 0);
+            due("has(1) with a life of 1", brief.has(1), true);
+            brief.advance(1);
+            due("has(1) with a life of 1, later", brief.has(1), false);
+        }
         livesOfNewObject();
     }
 
@@ -265,7 +277,10 @@ public final class PromiseTests {
         WindowCache x = new WindowCache(10, 20, 10);
         x.put(1, 10, 1, 30);
         x.put(2, 20, 1, 5);
-        x.advance(4);
+        x.put(3, 30, 1, 1);
+        x.advance(1);
+        due("has(3) behind its own 1", x.has(3), false);
+        x.advance(3);
         due("get(2)", x.get(2), 20);
         x.advance(1);
         due("has(2): a touch does not move its own end", x.has(2), false);
@@ -352,6 +367,28 @@ public final class PromiseTests {
         x.remove(3);
         due("maintain()", x.maintain(), 0);
         due("often(3)", x.often(3), 1);
+        removeByTasks();
+    }
+
+    private static void removeByTasks() {
+        WindowCache x = new WindowCache(10, 0, 0);
+        putAll(x, 1, 2, 3);
+        x.maintain();
+        x.get(2);
+        x.maintain();
+        x.remove(1);
+        x.remove(2);
+        x.remove(3);
+        due("weight in rooms", x.count(2), 3);
+        due("maintain()", x.maintain(), 0);
+        dueRoom(x, 0);
+        dueRoom(x, 1);
+        dueRoom(x, 2);
+        putAll(x, 1, 2, 3, 4, 5, 6, 7);
+        due("remove(3) as the eighth task", x.remove(3), 30);
+        due("tasks", x.count(14), 0);
+        due("weight in rooms", x.count(2), 6);
+        due("evicted", x.count(11), 0);
     }
 
     private static void promise6() {
@@ -444,7 +481,9 @@ public final class PromiseTests {
         due("finish(1) over one that is over", x.finish(1, 11, 1), true);
         dueLog(x, 0, 1, 10, EXPIRED);
         due("tasks NEW, GONE, NEW", x.count(14), 3);
-        x.advance(5);
+        x.advance(4);
+        due("has(1)", x.has(1), true);
+        x.advance(1);
         due("has(1)", x.has(1), false);
     }
 
@@ -553,6 +592,7 @@ public final class PromiseTests {
         climbUp();
         climbDown();
         rateOfTheLatestClimb();
+        rateIsCut();
     }
 
     private static void expiredByEndAndKey() {
@@ -687,6 +727,15 @@ public final class PromiseTests {
         getTimes(x, 1, 400);
         x.maintain();
         due("W by a step of 40 / 16", x.count(6), 3);
+        for (int max = 1; max <= 50; max++) {
+            WindowCache z = new WindowCache(max, 0, 0);
+            getTimes(z, 900, 10 * max - 1);
+            z.maintain();
+            due("W of " + max + ", no climb yet", z.count(6), 1);
+            z.get(900);
+            z.maintain();
+            due("W of " + max + " behind a climb", z.count(6), max < 3 ? 1 : max < 32 ? 2 : max < 48 ? 3 : 4);
+        }
         WindowCache y = new WindowCache(4, 0, 0);
         putAll(y, 1, 2, 3, 4);
         y.maintain();
@@ -702,6 +751,20 @@ public final class PromiseTests {
         getTimes(y, 900, 40);
         y.maintain();
         due("W at least 1, the way stays", y.count(6), 1);
+    }
+
+    /** 23 of 41 is more than 28 of 50, but both are 560 of 1000, cut. */
+    private static void rateIsCut() {
+        WindowCache x = new WindowCache(4, 0, 0);
+        putAll(x, 1);
+        getTimes(x, 1, 23);
+        getTimes(x, 900, 18);
+        x.maintain();
+        due("W", x.count(6), 2);
+        getTimes(x, 1, 28);
+        getTimes(x, 900, 22);
+        x.maintain();
+        due("W, the way stays", x.count(6), 3);
     }
 
     private static void rateOfTheLatestClimb() {
@@ -770,28 +833,34 @@ public final class PromiseTests {
         getTimes(x, 999, 3);
         x.maintain();
         due("added", x.count(15), 15);
-        countsMeet();
+        countsMeet(1, 8);
+        countsMeet(8, 8);
+        countsMeet(9, 16);
+        countsMeet(16, 16);
+        countsMeet(17, 32);
+        countsMeet(1025, 2048);
+        countsMeet(5000, 8192);
         halving();
     }
 
-    /** With SIZE 8 keys meet: what a key's four places say is worked out here by the document's formula. */
-    private static void countsMeet() {
+    /** Keys meet in small rows: what a key's four places say is worked out here by the document's formula. */
+    private static void countsMeet(int max, int size) {
         int[] odd = {-1640531527, -2048144777, -1028477379, 668265263};
-        WindowCache x = new WindowCache(7, 0, 0);
-        int[][] rows = new int[4][8];
+        WindowCache x = new WindowCache(max, 0, 0);
+        int[][] rows = new int[4][size];
         for (int key = 100; key < 125; key++) {
             x.put(key, 1, 1, 0);
             for (int row = 0; row < 4; row++) {
-                rows[row][((key + 1) * odd[row] >>> 7) % 8]++;
+                rows[row][((key + 1) * odd[row] >>> 7) % size]++;
             }
         }
         x.maintain();
-        for (int key = 0; key < 1000; key += 3) {
+        for (int key = 0; key < 1000; key++) {
             int least = 15;
             for (int row = 0; row < 4; row++) {
-                least = Math.min(least, rows[row][((key + 1) * odd[row] >>> 7) % 8]);
+                least = Math.min(least, rows[row][((key + 1) * odd[row] >>> 7) % size]);
             }
-            due("often(" + key + ")", x.often(key), least);
+            due("often(" + key + ") with max " + max, x.often(key), least);
         }
         due("added", x.count(15), 25);
     }
@@ -809,6 +878,9 @@ public final class PromiseTests {
         x.maintain();
         // 12 counts were odd: (80 - 12 / 4) / 2.
         due("added behind halving", x.count(15), 38);
+        due("often(7), 9 before", x.often(7), 4);
+        due("often(4), 6 before", x.often(4), 3);
+        due("often(2), 0 before", x.often(2), 0);
     }
 
     private static void promise14() {
