@@ -36,7 +36,9 @@ public final class FaceTest {
         lookAtFace();
         for (int max : new int[] {Integer.MIN_VALUE, 0, 1, 3, 40, 5000, Integer.MAX_VALUE}) {
             for (int life : new int[] {Integer.MIN_VALUE, 0, 1, 9, Integer.MAX_VALUE}) {
-                callWithAnything(max, life);
+                for (int run = 0; run < 40; run++) {
+                    callWithAnything(max, life, run);
+                }
             }
         }
         System.out.println(wrong == 0 ? "the face is as due" : wrong + " faults");
@@ -85,11 +87,10 @@ public final class FaceTest {
         }
     }
 
-    /** Far beyond 512 calls, where answers are free but must still come. */
-    private static void callWithAnything(int max, int life) {
-        WindowCache cache = new WindowCache(max, life, life);
-        int seed = max ^ life;
-        for (int call = 0; call < 20000; call++) {
+    private static void callWithAnything(int max, int life, int run) {
+        Cache cache = new Cache(max, life, life);
+        int seed = max ^ life ^ run * 7919;
+        for (int call = 1; call <= Cache.MOST_CALLS; call++) {
             int[] given = new int[5];
             for (int i = 0; i < given.length; i++) {
                 seed = seed * 1103515245 + 12345;
@@ -105,7 +106,7 @@ public final class FaceTest {
         }
     }
 
-    private static void callOne(WindowCache cache, int op, int[] given) {
+    private static void callOne(Cache cache, int op, int[] given) {
         switch (op) {
             case 0 -> cache.get(given[1]);
             case 1 -> cache.has(given[1]);
@@ -121,7 +122,7 @@ public final class FaceTest {
         }
     }
 
-    private static void callThrower(WindowCache cache, int op, int[] given) {
+    private static void callThrower(Cache cache, int op, int[] given) {
         String name = "";
         try {
             switch (op) {

@@ -66,26 +66,26 @@ public final class PromiseTests {
         }
     }
 
-    private static void dueLog(WindowCache x, int k, int key, int value, int why) {
+    private static void dueLog(Cache x, int k, int key, int value, int why) {
         due("listened(" + k + ", 0)", x.listened(k, 0), key);
         due("listened(" + k + ", 1)", x.listened(k, 1), value);
         due("listened(" + k + ", 2)", x.listened(k, 2), why);
     }
 
-    private static void dueRoom(WindowCache x, int room, int... keys) {
+    private static void dueRoom(Cache x, int room, int... keys) {
         for (int k = 0; k < keys.length; k++) {
             due("at(" + room + ", " + k + ")", x.at(room, k), keys[k]);
         }
         due("at(" + room + ", " + keys.length + ")", x.at(room, keys.length), NONE);
     }
 
-    private static void putAll(WindowCache x, int... keys) {
+    private static void putAll(Cache x, int... keys) {
         for (int key : keys) {
             x.put(key, key * 10, 1, 0);
         }
     }
 
-    private static void getTimes(WindowCache x, int key, int times) {
+    private static void getTimes(Cache x, int key, int times) {
         for (int i = 0; i < times; i++) {
             x.get(key);
         }
@@ -93,40 +93,40 @@ public final class PromiseTests {
 
     private static void promise1() {
         promise = 1;
-        WindowCache x = new WindowCache(4, 0, 0);
+        Cache x = new Cache(4, 0, 0);
         for (int what = 0; what <= 17; what++) {
             due("count(" + what + ") of a new one", x.count(what), what == 6 ? 1 : 0);
         }
         due("NONE", WindowCache.NONE, -1);
-        due("W of 99", new WindowCache(99, 0, 0).count(6), 1);
-        due("W of 199", new WindowCache(199, 0, 0).count(6), 1);
-        due("W of 200", new WindowCache(200, 0, 0).count(6), 2);
-        due("W of 5000", new WindowCache(5000, 0, 0).count(6), 50);
-        due("W of 5001", new WindowCache(5001, 0, 0).count(6), 50);
-        due("W of the most", new WindowCache(Integer.MAX_VALUE, 0, 0).count(6), 50);
+        due("W of 99", new Cache(99, 0, 0).count(6), 1);
+        due("W of 199", new Cache(199, 0, 0).count(6), 1);
+        due("W of 200", new Cache(200, 0, 0).count(6), 2);
+        due("W of 5000", new Cache(5000, 0, 0).count(6), 50);
+        due("W of 5001", new Cache(5001, 0, 0).count(6), 50);
+        due("W of the most", new Cache(Integer.MAX_VALUE, 0, 0).count(6), 50);
         for (int max : new int[] {0, -1, Integer.MIN_VALUE, 1}) {
-            WindowCache least = new WindowCache(max, 0, 0);
+            Cache least = new Cache(max, 0, 0);
             putAll(least, 1, 2);
             due("maintain() with max " + max, least.maintain(), 1);
         }
         for (int max : new int[] {5000, 6000}) {
-            WindowCache most = new WindowCache(max, 0, 0);
+            Cache most = new Cache(max, 0, 0);
             for (int key = 0; key < 6; key++) {
                 most.put(key, 1, 1000, 0);
             }
             due("maintain() with max " + max, most.maintain(), 5000);
-            WindowCache full = new WindowCache(max, 0, 0);
+            Cache full = new Cache(max, 0, 0);
             for (int key = 0; key < 6; key++) {
                 full.put(key, 1, key == 5 ? 1 : 1000, 0);
             }
             due("maintain() with 5001 and max " + max, full.maintain() <= 5000, true);
         }
-        WindowCache endless = new WindowCache(4, -5, Integer.MIN_VALUE);
+        Cache endless = new Cache(4, -5, Integer.MIN_VALUE);
         endless.put(1, 10, 1, 0);
         endless.advance(Integer.MAX_VALUE);
         due("has(1) without a life", endless.has(1), true);
         for (int by = 0; by < 2; by++) {
-            WindowCache brief = new WindowCache(4, by, 1 - by);
+            Cache brief = new Cache(4, by, 1 - by);
             brief.put(1, 10, 1, 0);
             due("has(1) with a life of 1", brief.has(1), true);
             brief.advance(1);
@@ -136,13 +136,13 @@ public final class PromiseTests {
     }
 
     private static void livesOfNewObject() {
-        WindowCache write = new WindowCache(4, 10, 0);
+        Cache write = new Cache(4, 10, 0);
         write.put(1, 10, 1, 0);
         write.advance(9);
         due("get(1) at 9", write.get(1), 10);
         write.advance(1);
         due("has(1) at its end", write.has(1), false);
-        WindowCache touch = new WindowCache(4, 0, 10);
+        Cache touch = new Cache(4, 0, 10);
         touch.put(1, 10, 1, 0);
         touch.advance(9);
         due("get(1) at 9", touch.get(1), 10);
@@ -150,7 +150,7 @@ public final class PromiseTests {
         due("has(1) at 18", touch.has(1), true);
         touch.advance(1);
         due("has(1) at 19", touch.has(1), false);
-        WindowCache both = new WindowCache(4, 15, 10);
+        Cache both = new Cache(4, 15, 10);
         both.put(1, 10, 1, 0);
         both.advance(9);
         both.get(1);
@@ -162,7 +162,7 @@ public final class PromiseTests {
 
     private static void promise2() {
         promise = 2;
-        WindowCache x = new WindowCache(10, 5, 0);
+        Cache x = new Cache(10, 5, 0);
         due("get(0) of none", x.get(0), NONE);
         x.put(0, 7, 1, 0);
         x.put(999, 8, 1, 0);
@@ -183,7 +183,7 @@ public final class PromiseTests {
     }
 
     private static void readBuffers() {
-        WindowCache x = new WindowCache(10, 0, 20);
+        Cache x = new Cache(10, 0, 20);
         putAll(x, 1, 2);
         x.maintain();
         getTimes(x, 2, 16);
@@ -202,7 +202,7 @@ public final class PromiseTests {
     }
 
     private static void notesOfAnEntryThatIsNotInARoom() {
-        WindowCache x = new WindowCache(10, 0, 0);
+        Cache x = new Cache(10, 0, 0);
         x.put(1, 10, 1, 0);
         getTimes(x, 1, 3);
         x.maintain();
@@ -217,7 +217,7 @@ public final class PromiseTests {
     }
 
     private static void orderOfNotes() {
-        WindowCache x = new WindowCache(10, 0, 0);
+        Cache x = new Cache(10, 0, 0);
         putAll(x, 1, 2, 3, 4, 5);
         x.maintain();
         dueRoom(x, 0, 5);
@@ -235,7 +235,7 @@ public final class PromiseTests {
 
     private static void promise3() {
         promise = 3;
-        WindowCache x = new WindowCache(10, 0, 10);
+        Cache x = new Cache(10, 0, 10);
         due("has(1) of none", x.has(1), false);
         x.put(1, 10, 1, 0);
         x.advance(9);
@@ -252,7 +252,7 @@ public final class PromiseTests {
 
     private static void promise4() {
         promise = 4;
-        WindowCache x = new WindowCache(10, 0, 0);
+        Cache x = new Cache(10, 0, 0);
         due("put of a new one", x.put(0, 0, 1, 0), false);
         due("put anew", x.put(0, 5, 1000, 0), true);
         due("put(999)", x.put(999, Integer.MAX_VALUE, 1, Integer.MAX_VALUE), false);
@@ -274,7 +274,7 @@ public final class PromiseTests {
     }
 
     private static void ownTimes() {
-        WindowCache x = new WindowCache(10, 20, 10);
+        Cache x = new Cache(10, 20, 10);
         x.put(1, 10, 1, 30);
         x.put(2, 20, 1, 5);
         x.put(3, 30, 1, 1);
@@ -294,7 +294,7 @@ public final class PromiseTests {
     }
 
     private static void putOverAnEntryThatIsOver() {
-        WindowCache x = new WindowCache(10, 5, 0);
+        Cache x = new Cache(10, 5, 0);
         putAll(x, 1, 2, 3, 4, 5, 6, 7);
         x.advance(5);
         due("over", x.count(1), 7);
@@ -311,7 +311,7 @@ public final class PromiseTests {
     }
 
     private static void eighthTask() {
-        WindowCache x = new WindowCache(100, 0, 0);
+        Cache x = new Cache(100, 0, 0);
         putAll(x, 1, 2, 3, 4, 5);
         x.put(1, 11, 1, 0);
         x.remove(2);
@@ -326,7 +326,7 @@ public final class PromiseTests {
     }
 
     private static void weightsAsTheyAreNow() {
-        WindowCache x = new WindowCache(10, 0, 0);
+        Cache x = new Cache(10, 0, 0);
         putAll(x, 1, 2, 3);
         x.maintain();
         getTimes(x, 1, 1);
@@ -342,7 +342,7 @@ public final class PromiseTests {
 
     private static void promise5() {
         promise = 5;
-        WindowCache x = new WindowCache(10, 5, 0);
+        Cache x = new Cache(10, 5, 0);
         due("remove(1) of none", x.remove(1), NONE);
         due("remove(-1)", x.remove(-1), NONE);
         due("remove(1000)", x.remove(1000), NONE);
@@ -371,7 +371,7 @@ public final class PromiseTests {
     }
 
     private static void removeByTasks() {
-        WindowCache x = new WindowCache(10, 0, 0);
+        Cache x = new Cache(10, 0, 0);
         putAll(x, 1, 2, 3);
         x.maintain();
         x.get(2);
@@ -393,7 +393,7 @@ public final class PromiseTests {
 
     private static void promise6() {
         promise = 6;
-        WindowCache x = new WindowCache(10, 5, 0);
+        Cache x = new Cache(10, 5, 0);
         badArgument("load(-1)", () -> x.load(-1));
         badArgument("load(1000)", () -> x.load(1000));
         due("misses", x.count(8), 0);
@@ -422,7 +422,7 @@ public final class PromiseTests {
 
     private static void promise7() {
         promise = 7;
-        WindowCache x = new WindowCache(10, 0, 5);
+        Cache x = new Cache(10, 0, 5);
         due("refresh(-1)", x.refresh(-1), false);
         due("refresh(1000)", x.refresh(1000), false);
         due("refresh(1) of none", x.refresh(1), false);
@@ -446,7 +446,7 @@ public final class PromiseTests {
 
     private static void promise8() {
         promise = 8;
-        WindowCache x = new WindowCache(10, 0, 0);
+        Cache x = new Cache(10, 0, 0);
         badState("finish(1) of none", () -> x.finish(1, 1, 1));
         badState("finish(1, -1, 0) of none", () -> x.finish(1, -1, 0));
         badState("finish(-1)", () -> x.finish(-1, 1, 1));
@@ -474,7 +474,7 @@ public final class PromiseTests {
     }
 
     private static void finishLoadOverAnEntryThatIsOver() {
-        WindowCache x = new WindowCache(10, 5, 0);
+        Cache x = new Cache(10, 5, 0);
         x.put(1, 10, 1, 0);
         x.advance(5);
         x.load(1);
@@ -488,7 +488,7 @@ public final class PromiseTests {
     }
 
     private static void finishReload() {
-        WindowCache x = new WindowCache(10, 5, 0);
+        Cache x = new Cache(10, 5, 0);
         x.put(1, 10, 1, 100);
         x.maintain();
         x.refresh(1);
@@ -503,7 +503,7 @@ public final class PromiseTests {
     }
 
     private static void reloadTooLate() {
-        WindowCache x = new WindowCache(10, 5, 0);
+        Cache x = new Cache(10, 5, 0);
         putAll(x, 1, 2, 3);
         x.refresh(1);
         x.refresh(2);
@@ -531,7 +531,7 @@ public final class PromiseTests {
 
     private static void promise9() {
         promise = 9;
-        WindowCache x = new WindowCache(10, 0, 0);
+        Cache x = new Cache(10, 0, 0);
         badState("fail(1) of none", () -> x.fail(1));
         badState("fail(-1)", () -> x.fail(-1));
         badState("fail(1000)", () -> x.fail(1000));
@@ -553,24 +553,19 @@ public final class PromiseTests {
 
     private static void promise10() {
         promise = 10;
-        WindowCache x = new WindowCache(10, 0, 0);
+        Cache x = new Cache(10, 0, 0);
         due("advance(0)", x.advance(0), 0);
         due("advance(5)", x.advance(5), 5);
         due("advance(-1)", x.advance(-1), NONE);
         due("advance(least)", x.advance(Integer.MIN_VALUE), NONE);
         due("advance(0)", x.advance(0), 5);
-        long time = 5;
-        while (TWO_TO_40 - time >= Integer.MAX_VALUE && x.advance(Integer.MAX_VALUE) == time + Integer.MAX_VALUE) {
-            time += Integer.MAX_VALUE;
+        Cache far = new Cache(10, 0, 0);
+        // 512 calls end before 2^40: the nearest to it that can be asked for.
+        for (int i = 1; i < Cache.MOST_CALLS; i++) {
+            far.advance(Integer.MAX_VALUE);
         }
-        int left = (int) (TWO_TO_40 - time);
-        due("advance beyond 2^40", x.advance(left + 1), NONE);
-        due("advance to 2^40", x.advance(left), TWO_TO_40);
-        due("advance(1)", x.advance(1), NONE);
-        due("advance(0)", x.advance(0), TWO_TO_40);
-        x.put(1, 10, 1, 5);
-        due("has(1) at the last time", x.has(1), true);
-        WindowCache over = new WindowCache(10, 3, 0);
+        due("advance, call 512", far.advance(Integer.MAX_VALUE), TWO_TO_40 - 512);
+        Cache over = new Cache(10, 3, 0);
         over.put(1, 10, 1, 0);
         over.advance(3);
         due("advance is no maintenance: entries", over.count(0), 1);
@@ -579,7 +574,7 @@ public final class PromiseTests {
 
     private static void promise11() {
         promise = 11;
-        WindowCache x = new WindowCache(10, 0, 0);
+        Cache x = new Cache(10, 0, 0);
         due("maintain() of a new one", x.maintain(), 0);
         x.put(1, 10, 11, 0);
         due("maintain(), too heavy", x.maintain(), 0);
@@ -596,7 +591,7 @@ public final class PromiseTests {
     }
 
     private static void expiredByEndAndKey() {
-        WindowCache x = new WindowCache(100, 0, 0);
+        Cache x = new Cache(100, 0, 0);
         x.put(9, 90, 1, 7);
         x.put(5, 50, 1, 7);
         x.put(7, 70, 1, 3);
@@ -618,7 +613,7 @@ public final class PromiseTests {
     }
 
     private static void touchedAndDemoted() {
-        WindowCache x = new WindowCache(5, 0, 0);
+        Cache x = new Cache(5, 0, 0);
         putAll(x, 1, 3, 5, 7, 9);
         x.maintain();
         dueRoom(x, 1, 1, 3, 5, 7);
@@ -640,7 +635,7 @@ public final class PromiseTests {
     }
 
     private static void victimAndCandidate() {
-        WindowCache x = new WindowCache(3, 0, 0);
+        Cache x = new Cache(3, 0, 0);
         putAll(x, 1, 2, 3);
         x.maintain();
         dueRoom(x, 1, 1, 2);
@@ -663,7 +658,7 @@ public final class PromiseTests {
 
     /** A draw at each eviction of one asked for more than 5 times, no draw else: the 63rd is a multiple of 128. */
     private static void draws() {
-        WindowCache x = new WindowCache(2, 0, 0);
+        Cache x = new Cache(2, 0, 0);
         putAll(x, 0, 1);
         x.maintain();
         dueRoom(x, 1, 0);
@@ -696,7 +691,7 @@ public final class PromiseTests {
     }
 
     private static void climbUp() {
-        WindowCache x = new WindowCache(4, 0, 0);
+        Cache x = new Cache(4, 0, 0);
         putAll(x, 1, 2, 3, 4);
         x.maintain();
         dueRoom(x, 1, 1, 2, 3);
@@ -721,14 +716,14 @@ public final class PromiseTests {
     }
 
     private static void climbDown() {
-        WindowCache x = new WindowCache(40, 0, 0);
+        Cache x = new Cache(40, 0, 0);
         putAll(x, 1, 2, 3, 4);
         x.maintain();
         getTimes(x, 1, 400);
         x.maintain();
         due("W by a step of 40 / 16", x.count(6), 3);
         for (int max = 1; max <= 50; max++) {
-            WindowCache z = new WindowCache(max, 0, 0);
+            Cache z = new Cache(max, 0, 0);
             getTimes(z, 900, 10 * max - 1);
             z.maintain();
             due("W of " + max + ", no climb yet", z.count(6), 1);
@@ -736,7 +731,7 @@ public final class PromiseTests {
             z.maintain();
             due("W of " + max + " behind a climb", z.count(6), max < 3 ? 1 : max < 32 ? 2 : max < 48 ? 3 : 4);
         }
-        WindowCache y = new WindowCache(4, 0, 0);
+        Cache y = new Cache(4, 0, 0);
         putAll(y, 1, 2, 3, 4);
         y.maintain();
         getTimes(y, 4, 40);
@@ -755,7 +750,7 @@ public final class PromiseTests {
 
     /** 23 of 41 is more than 28 of 50, but both are 560 of 1000, cut. */
     private static void rateIsCut() {
-        WindowCache x = new WindowCache(4, 0, 0);
+        Cache x = new Cache(4, 0, 0);
         putAll(x, 1);
         getTimes(x, 1, 23);
         getTimes(x, 900, 18);
@@ -768,7 +763,7 @@ public final class PromiseTests {
     }
 
     private static void rateOfTheLatestClimb() {
-        WindowCache y = new WindowCache(4, 0, 0);
+        Cache y = new Cache(4, 0, 0);
         putAll(y, 1);
         getTimes(y, 1, 40);
         y.maintain();
@@ -788,7 +783,7 @@ public final class PromiseTests {
 
     private static void promise12() {
         promise = 12;
-        WindowCache x = new WindowCache(10, 0, 0);
+        Cache x = new Cache(10, 0, 0);
         due("count(-1)", x.count(-1), NONE);
         due("count(18)", x.count(18), NONE);
         due("count(most)", x.count(Integer.MAX_VALUE), NONE);
@@ -818,7 +813,7 @@ public final class PromiseTests {
 
     private static void promise13() {
         promise = 13;
-        WindowCache x = new WindowCache(10, 0, 0);
+        Cache x = new Cache(10, 0, 0);
         due("often(-1)", x.often(-1), NONE);
         due("often(1000)", x.often(1000), NONE);
         due("often(0)", x.often(0), 0);
@@ -846,27 +841,29 @@ public final class PromiseTests {
     /** Keys meet in small rows: what a key's four places say is worked out here by the document's formula. */
     private static void countsMeet(int max, int size) {
         int[] odd = {-1640531527, -2048144777, -1028477379, 668265263};
-        WindowCache x = new WindowCache(max, 0, 0);
-        int[][] rows = new int[4][size];
-        for (int key = 100; key < 125; key++) {
-            x.put(key, 1, 1, 0);
-            for (int row = 0; row < 4; row++) {
-                rows[row][((key + 1) * odd[row] >>> 7) % size]++;
+        for (int from = 0; from < 1000; from += 250) {
+            Cache x = new Cache(max, 0, 0);
+            int[][] rows = new int[4][size];
+            for (int key = 100; key < 125; key++) {
+                x.put(key, 1, 1, 0);
+                for (int row = 0; row < 4; row++) {
+                    rows[row][((key + 1) * odd[row] >>> 7) % size]++;
+                }
             }
-        }
-        x.maintain();
-        for (int key = 0; key < 1000; key++) {
-            int least = 15;
-            for (int row = 0; row < 4; row++) {
-                least = Math.min(least, rows[row][((key + 1) * odd[row] >>> 7) % size]);
+            x.maintain();
+            for (int key = from; key < from + 250; key++) {
+                int least = 15;
+                for (int row = 0; row < 4; row++) {
+                    least = Math.min(least, rows[row][((key + 1) * odd[row] >>> 7) % size]);
+                }
+                due("often(" + key + ") with max " + max, x.often(key), least);
             }
-            due("often(" + key + ") with max " + max, x.often(key), least);
+            due("added", x.count(15), 25);
         }
-        due("added", x.count(15), 25);
     }
 
     private static void halving() {
-        WindowCache x = new WindowCache(8, 0, 0);
+        Cache x = new Cache(8, 0, 0);
         int puts = 0;
         while (puts < 79) {
             x.put(puts * 7 % 1000, 1, 1, 0);
@@ -885,7 +882,7 @@ public final class PromiseTests {
 
     private static void promise14() {
         promise = 14;
-        WindowCache x = new WindowCache(4, 0, 0);
+        Cache x = new Cache(4, 0, 0);
         due("at(0, 0) of a new one", x.at(0, 0), NONE);
         putAll(x, 1, 2, 3);
         due("at(0, 0) before maintenance", x.at(0, 0), NONE);
@@ -904,7 +901,7 @@ public final class PromiseTests {
 
     private static void promise15() {
         promise = 15;
-        WindowCache x = new WindowCache(1, 5, 0);
+        Cache x = new Cache(1, 5, 0);
         due("listened(0, 0) of a new one", x.listened(0, 0), NONE);
         x.put(1, 10, 1, 0);
         x.put(1, 11, 1, 0);
@@ -921,7 +918,7 @@ public final class PromiseTests {
         due("listened(-1, 0)", x.listened(-1, 0), NONE);
         due("listened(0, -1)", x.listened(0, -1), NONE);
         due("listened(0, 3)", x.listened(0, 3), NONE);
-        WindowCache many = new WindowCache(1, 0, 0);
+        Cache many = new Cache(1, 0, 0);
         for (int value = 0; value < 505; value++) {
             many.put(3, value, 1, 0);
         }
@@ -931,7 +928,7 @@ public final class PromiseTests {
     }
 
     private static void listenedBeforeMaintenance() {
-        WindowCache x = new WindowCache(1, 0, 0);
+        Cache x = new Cache(1, 0, 0);
         putAll(x, 1, 2, 3, 4, 5, 6, 7);
         x.put(7, 71, 1, 0);
         dueLog(x, 0, 7, 70, REPLACED);
